@@ -167,6 +167,7 @@ public final class AsInBertha {
         if (!names.hasSet(name, set) || !fractionPart(part)) {
             return NO_NUMBER;
         }
+        speech.prepare(name);
         return lowest(speech.rightBy(name, set), HUNDREDS[names.sizes[name]], part);
     }
 
@@ -175,7 +176,11 @@ public final class AsInBertha {
     }
 
     public int leastSaid(int name, int x) {
-        return names.has(name) && ofTwelve(x) ? speech.leastSet(name, x) : BAD;
+        if (!names.has(name) || !ofTwelve(x)) {
+            return BAD;
+        }
+        speech.prepare(name);
+        return speech.leastSet(name, x);
     }
 
     public int worst(int name) {
@@ -709,12 +714,6 @@ public final class AsInBertha {
             return 100 * weights[row * LETTERS + heard] / totals[row];
         }
 
-        /** PARTS by which a LETTER said by its WORD is heard right. */
-        int wordParts(int letter) {
-            int plain = parts(letter, letter, 0);
-            return (clear[letter] * 100 + (12 - clear[letter]) * plain) / 12;
-        }
-
         /** What is heard by a draw that was made already; without WEIGHTS none is needed. */
         int heardBy(int z, int said, int k) {
             int all = total(said, k);
@@ -952,19 +951,30 @@ public final class AsInBertha {
     private static final class Speech {
         private final Names names;
         private final Line line;
+        /** PARTS by which each place of the prepared NAME is heard right: plain, by its WORD. */
+        private final int[] plain = new int[LONGEST];
+        private final int[] byWord = new int[LONGEST];
 
         Speech(Names names, Line line) {
             this.names = names;
             this.line = line;
         }
 
+        /** Ahead of rightBy() and leastSet(), which would else work out the same PARTS set by set. */
+        void prepare(int name) {
+            for (int i = 0; i < names.sizes[name]; i++) {
+                int letter = names.at(name, i);
+                int clear = line.clear[letter];
+                plain[i] = line.parts(letter, letter, 0);
+                byWord[i] = (clear * 100 + (12 - clear) * plain[i]) / 12;
+            }
+        }
+
         /** In hundredths to the power of its LETTERS, as are all products here. */
         long rightBy(int name, int set) {
             long product = 1;
             for (int i = 0; i < names.sizes[name]; i++) {
-                int letter = names.at(name, i);
-                boolean byWord = (set >> i & 1) != 0;
-                product *= byWord ? line.wordParts(letter) : line.parts(letter, letter, 0);
+                product *= (set >> i & 1) != 0 ? byWord[i] : plain[i];
             }
             return product;
         }
@@ -1034,7 +1044,9 @@ public final class AsInBertha {
             for (int one = 0; one < names.number; one++) {
                 for (int other = one + 1; other < names.number; other++) {
                     if (names.areEven(one, other)) {
-                        long both = bothWays(one, other);
+                        // As if of six LETTERS, so that pairs of unlike length can be compared.
+                        long both = (heardAs(one, other) + heardAs(other, one))
+                            * HUNDREDS[LONGEST - names.sizes[one]];
                         if (both > most) {
                             closest = 10 * one + other;
                             most = both;
@@ -1043,12 +1055,6 @@ public final class AsInBertha {
                 }
             }
             return closest;
-        }
-
-        /** As if of six LETTERS, so that pairs of unlike length can be compared. */
-        private long bothWays(int one, int other) {
-            long both = heardAs(one, other) + heardAs(other, one);
-            return both * HUNDREDS[LONGEST - names.sizes[one]];
         }
 
         int stopsAt(int name, int cost) {
