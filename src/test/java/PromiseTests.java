@@ -1,43 +1,9 @@
 /** For each promise: ordinary inputs, the edges that the document names, and wrong inputs. */
-public final class PromiseTests {
-    private static final long NONE = Long.MIN_VALUE;
+public final class PromiseTests extends Answers {
     private static final int WILD = 2000000000;
-    private static int wrong = 0;
-    private static int asked = 0;
-
-    private static void due(String what, long want, long got) {
-        asked++;
-        if (got != want) {
-            wrong++;
-            System.out.println(what + " answered " + got + ", due is " + want);
-        }
-    }
-
-    private static void bytes(AsInBertha x, int shelf, int... letters) {
-        x.row(shelf, 0, letters.length);
-        for (int i = 0; i < letters.length; i++) {
-            x.put(shelf, i, letters[i]);
-        }
-    }
-
-    private static int named(AsInBertha x, int... letters) {
-        bytes(x, 5, letters);
-        return x.name(5, letters.length);
-    }
-
-    private static int lawOf(AsInBertha x, String text) {
-        for (int i = 0; i < text.length(); i++) {
-            x.feed(text.charAt(i));
-        }
-        return x.law();
-    }
-
-    private static void fraction(String what, long above, long below, long gotAbove, long gotBelow) {
-        due(what + " above", above, gotAbove);
-        due(what + " below", below, gotBelow);
-    }
 
     public static void main(String[] args) {
+        constants();
         newObject();
         names();
         mending();
@@ -61,10 +27,15 @@ public final class PromiseTests {
         shifting();
         taking();
         counting();
-        System.out.println(wrong == 0 ? asked + " answers are as due" : wrong + " answers are not as due");
-        if (wrong != 0) {
-            System.exit(1);
-        }
+        tell();
+    }
+
+    private static void constants() {
+        due("BAD", -1, AsInBertha.BAD);
+        due("NOT", -2, AsInBertha.NOT);
+        due("FULL", -3, AsInBertha.FULL);
+        due("STATE", -5, AsInBertha.STATE);
+        due("VOID", -2000000000, AsInBertha.VOID);
     }
 
     private static void newObject() {
@@ -569,10 +540,6 @@ public final class PromiseTests {
         due("25 no letter", 1, x.fits(0, 0));
         due("25 name", -1, x.fits(0, 4));
         due("25 name", -1, x.fits(0, -1));
-    }
-
-    private static int next(int z) {
-        return z * 1103515245 + 12345;
     }
 
     private static void drawing() {
