@@ -235,10 +235,6 @@ public final class LineBoundsTests extends Answers {
         fraction("the worst, 81 by 90 + 81", 9, 19, x.heard(102, 0, 0), x.heard(102, 0, 1));
     }
 
-    private static String repeated(String what, int times) {
-        return what.repeat(times);
-    }
-
     private static void faulty(String text, int fault) {
         AsInBertha x = new AsInBertha();
         due("law of " + text, -100 - fault, lawOf(x, text));
@@ -255,7 +251,7 @@ public final class LineBoundsTests extends Answers {
     /** "THE LAW is a TEXT by THE TAPE (at most 120 bytes)" */
     private static void tapeOf120() {
         // WEIGHT 57 + 10 for itself, 1 for all others
-        String text = "e?1" + repeated("+1", 56) + "+10;1";
+        String text = "e?1" + "+1".repeat(56) + "+10;1";
         due("as long as can be", 120, text.length());
         AsInBertha x = new AsInBertha();
         for (int i = 0; i < 120; i++) {
@@ -268,9 +264,9 @@ public final class LineBoundsTests extends Answers {
         fraction("by all 120", 67, 78, x.heard(0, 0, 0), x.heard(0, 0, 1));
         due("room again", 1, x.feed('1'));
         AsInBertha y = new AsInBertha();
-        due("ends with the tape", -220, lawOf(y, repeated("1+", 60)));
-        due("one more would have ended it", -220, lawOf(y, repeated("1+", 60) + "1"));
-        due("faulty at its last byte", -219, lawOf(y, repeated("1+", 59) + "1)"));
+        due("ends with the tape", -220, lawOf(y, "1+".repeat(60)));
+        due("one more would have ended it", -220, lawOf(y, "1+".repeat(60) + "1"));
+        due("faulty at its last byte", -219, lawOf(y, "1+".repeat(59) + "1)"));
     }
 
     /** "LINES, one or more, parted by ;" */
@@ -282,8 +278,8 @@ public final class LineBoundsTests extends Answers {
         faulty(";1", 0);
         fine("1");
         fine("1;2");
-        fine("1" + repeated(";1", 59));
-        faulty("1" + repeated(";1", 59) + ";", 120);
+        fine("1" + ";1".repeat(59));
+        faulty("1" + ";1".repeat(59) + ";", 120);
     }
 
     /** "LINE: E, or E ? E (what counts if the first is not 0)." */
@@ -378,7 +374,7 @@ public final class LineBoundsTests extends Answers {
         for (char a : AHEAD.toCharArray()) {
             for (char b : AHEAD.toCharArray()) {
                 String six = "" + a + b + a + a + b + b;
-                String closed = repeated(")", (int) six.chars().filter(c -> c == '(').count());
+                String closed = ")".repeat((int) six.chars().filter(c -> c == '(').count());
                 fine(six + "1" + closed);
                 for (char c : AHEAD.toCharArray()) {
                     faulty(six + c + "1" + closed + (c == '(' ? ")" : ""), 6);
